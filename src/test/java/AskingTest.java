@@ -2,7 +2,6 @@
 public final class AskingTest {
     private static final int NONE = RelaxedRadixVector.NONE;
     private static final long OUT = RelaxedRadixVector.OUT;
-    private static final int[] NO_VERSIONS = {-1, 40, 41, 1000, Integer.MAX_VALUE, Integer.MIN_VALUE};
     private static final int[] NO_PLACES = {-1, 9, 10, 80, 81, Integer.MAX_VALUE, Integer.MIN_VALUE};
 
     private final Checks checks = new Checks();
@@ -23,7 +22,7 @@ public final class AskingTest {
         test.checks.finish();
     }
 
-    /** Version 1 has 0 .. 8; version 2, open, has 3 .. 8 in the leaves 1, 4, 1. */
+    /** Version 1 has 0 .. 8; version 2, and version 3, which is open, have 3 .. 8 in leaves of 1, 4 and 1. */
     private static RelaxedRadixVector small() {
         RelaxedRadixVector x = Vectors.withPushed(9);
         x.slice(1, 3, 9);
@@ -50,7 +49,7 @@ public final class AskingTest {
 
     private void promise14Size() {
         RelaxedRadixVector x = small();
-        for (int v : NO_VERSIONS) {
+        for (int v : Vectors.NO_VERSIONS) {
             checks.due("size(" + v + ")", x.size(v), NONE);
         }
         checks.due("size(4) without version 4", x.size(4), NONE);
@@ -66,7 +65,7 @@ public final class AskingTest {
 
     private void promise15Get() {
         RelaxedRadixVector x = small();
-        for (int v : NO_VERSIONS) {
+        for (int v : Vectors.NO_VERSIONS) {
             checks.due("get(" + v + ", 0)", x.get(v, 0), OUT);
         }
         for (int i : NO_PLACES) {
@@ -88,7 +87,7 @@ public final class AskingTest {
 
     private void promise16Hash() {
         RelaxedRadixVector x = small();
-        for (int v : NO_VERSIONS) {
+        for (int v : Vectors.NO_VERSIONS) {
             checks.due("hash(" + v + ")", x.hash(v), 0);
         }
         checks.due("hash(0)", x.hash(0), 1);
@@ -104,7 +103,7 @@ public final class AskingTest {
 
     private void promise17Compare() {
         RelaxedRadixVector x = small();
-        for (int v : NO_VERSIONS) {
+        for (int v : Vectors.NO_VERSIONS) {
             checks.due("compare(" + v + ", 1)", x.compare(v, 1), 2);
             checks.due("compare(1, " + v + ")", x.compare(1, v), 2);
             checks.due("compare(" + v + ", " + v + ")", x.compare(v, v), 2);
@@ -134,7 +133,7 @@ public final class AskingTest {
 
     private void promise18Height() {
         RelaxedRadixVector x = Vectors.withPushed(80);
-        for (int v : NO_VERSIONS) {
+        for (int v : Vectors.NO_VERSIONS) {
             checks.due("height(" + v + ")", x.height(v), NONE);
         }
         checks.due("height(0)", x.height(0), 0);
@@ -149,7 +148,7 @@ public final class AskingTest {
 
     private void promise19Nodes() {
         RelaxedRadixVector x = Vectors.withPushed(80);
-        for (int v : NO_VERSIONS) {
+        for (int v : Vectors.NO_VERSIONS) {
             checks.due("nodes(" + v + ")", x.nodes(v), NONE);
         }
         checks.due("nodes(0)", x.nodes(0), 0);
@@ -164,7 +163,7 @@ public final class AskingTest {
 
     private void promise20Row() {
         RelaxedRadixVector x = Vectors.withPushed(18);
-        for (int v : NO_VERSIONS) {
+        for (int v : Vectors.NO_VERSIONS) {
             checks.due("row(" + v + ", 1, 0)", x.row(v, 1, 0), NONE);
         }
         int[][] rows = {{4, 4, 4, 4, 2}, {4, 1}, {2}};
@@ -191,7 +190,7 @@ public final class AskingTest {
 
     private void promise21Probes() {
         RelaxedRadixVector x = small();
-        for (int v : NO_VERSIONS) {
+        for (int v : Vectors.NO_VERSIONS) {
             checks.due("probes(" + v + ", 0)", x.probes(v, 0), NONE);
         }
         for (int i : NO_PLACES) {

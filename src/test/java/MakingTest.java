@@ -5,9 +5,6 @@ public final class MakingTest {
     private static final int LONG = RelaxedRadixVector.LONG;
     private static final int TALL = RelaxedRadixVector.TALL;
 
-    /** No version of a small object, but ones that are near or far from being one. */
-    private static final int[] NO_VERSIONS = {-1, 40, 41, 1000, Integer.MAX_VALUE, Integer.MIN_VALUE};
-
     private final Checks checks = new Checks();
 
     public static void main(String[] args) {
@@ -85,7 +82,7 @@ public final class MakingTest {
 
     private void promise2AppendRefused() {
         RelaxedRadixVector x = Vectors.withPushed(80);
-        for (int v : NO_VERSIONS) {
+        for (int v : Vectors.NO_VERSIONS) {
             checks.due("append(" + v + ", 1)", x.append(v, 1), NONE);
         }
         checks.due("append(2, 1) without version 2", x.append(2, 1), NONE);
@@ -134,7 +131,7 @@ public final class MakingTest {
 
     private void promise3PrependRefused() {
         RelaxedRadixVector x = Vectors.withPushed(80);
-        for (int v : NO_VERSIONS) {
+        for (int v : Vectors.NO_VERSIONS) {
             checks.due("prepend(" + v + ", 1)", x.prepend(v, 1), NONE);
         }
         int open = x.thaw(0);
@@ -175,7 +172,7 @@ public final class MakingTest {
 
     private void promise4SetRefused() {
         RelaxedRadixVector x = Vectors.withPushed(80);
-        for (int v : NO_VERSIONS) {
+        for (int v : Vectors.NO_VERSIONS) {
             checks.due("set(" + v + ", 0, 1)", x.set(v, 0, 1), NONE);
         }
         for (int i : new int[] {-1, 80, 81, Integer.MAX_VALUE, Integer.MIN_VALUE}) {
@@ -237,7 +234,7 @@ public final class MakingTest {
 
     private void promise5ConcatRefused() {
         RelaxedRadixVector x = Vectors.withPushed(80);
-        for (int v : NO_VERSIONS) {
+        for (int v : Vectors.NO_VERSIONS) {
             checks.due("concat(" + v + ", 1)", x.concat(v, 1), NONE);
             checks.due("concat(1, " + v + ")", x.concat(1, v), NONE);
         }
@@ -290,7 +287,7 @@ public final class MakingTest {
 
     private void promise6SliceRefused() {
         RelaxedRadixVector x = Vectors.withPushed(10);
-        for (int v : NO_VERSIONS) {
+        for (int v : Vectors.NO_VERSIONS) {
             checks.due("slice(" + v + ", 0, 0)", x.slice(v, 0, 0), NONE);
         }
         int[][] wrong = {{-1, 5}, {0, 11}, {5, 4}, {11, 11}, {-1, -1}, {10, 9},
@@ -326,7 +323,7 @@ public final class MakingTest {
 
     private void promise7InsertAtRefused() {
         RelaxedRadixVector x = Vectors.withPushed(80);
-        for (int v : NO_VERSIONS) {
+        for (int v : Vectors.NO_VERSIONS) {
             checks.due("insertAt(" + v + ", 0, 1)", x.insertAt(v, 0, 1), NONE);
         }
         for (int i : new int[] {-1, 81, Integer.MAX_VALUE, Integer.MIN_VALUE}) {
@@ -373,7 +370,7 @@ public final class MakingTest {
 
     private void promise8RemoveAtRefused() {
         RelaxedRadixVector x = Vectors.withPushed(80);
-        for (int v : NO_VERSIONS) {
+        for (int v : Vectors.NO_VERSIONS) {
             checks.due("removeAt(" + v + ", 0)", x.removeAt(v, 0), NONE);
         }
         for (int i : new int[] {-1, 80, 81, Integer.MAX_VALUE, Integer.MIN_VALUE}) {

@@ -1,5 +1,8 @@
 /** What the tests do again and again with an object, by public calls alone. */
 final class Vectors {
+    /** Of no object, or of none with few versions: near to being a version, and far from it. */
+    static final int[] NO_VERSIONS = {-1, 40, 41, 1000, Integer.MAX_VALUE, Integer.MIN_VALUE};
+
     /*
      * Edits of one version after another, each of the one before, that end in a version of height 4
      * of which the call in the name is refused as TALL. They were searched for, as they are rare.
