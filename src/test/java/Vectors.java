@@ -1,8 +1,5 @@
 /** What the tests do again and again with an object, by public calls alone. */
 final class Vectors {
-    /** Of no object, or of none with few versions: near to being a version, and far from it. */
-    static final int[] NO_VERSIONS = {-1, 40, 41, 1000, Integer.MAX_VALUE, Integer.MIN_VALUE};
-
     /*
      * Edits of one version after another, each of the one before, that end in a version of height 4
      * of which the call in the name is refused as TALL. They were searched for, as they are rare.
@@ -64,6 +61,26 @@ final class Vectors {
         }
     }
 
+    /**
+     * Version 1 has 0 .. 79; version 2 has 0 .. 8, in leaves of 4, 4 and 1; version 3 has 3 .. 11,
+     * in leaves of 1, 4 and 4; version 4 is open and like version 2; version 5 is open and empty.
+     */
+    static RelaxedRadixVector mixed() {
+        RelaxedRadixVector x = withPushed(80);
+        x.slice(1, 0, 9);
+        x.slice(1, 3, 12);
+        x.thaw(2);
+        x.thaw(0);
+        return x;
+    }
+
+    /** The same, with as many versions more as there may be. */
+    static RelaxedRadixVector mixedFull() {
+        RelaxedRadixVector x = mixed();
+        fillUp(x);
+        return x;
+    }
+
     static int newest(RelaxedRadixVector x) {
         return x.versions() - 1;
     }
@@ -77,12 +94,28 @@ final class Vectors {
         }
     }
 
+    /**
+     * What tells a version from another one, of every version, and how the object goes on: so it is
+     * asked last, as it freezes the open versions and makes one more.
+     */
+    static String seen(RelaxedRadixVector x) {
+        StringBuilder text = new StringBuilder();
+        int count = x.versions();
+        for (int v = 0; v < count; v++) {
+            text.append(x.size(v)).append(' ').append(x.hash(v)).append(' ').append(x.height(v)).append(' ');
+            text.append(x.nodes(v)).append(x.freeze(v) ? " open; " : " frozen; ");
+        }
+        return text.append(x.append(0, 1)).toString();
+    }
+
     /** The slot counts of the nodes, level by level from the root down: "2|41|44441". */
     static String shape(RelaxedRadixVector x, int v) {
         StringBuilder text = new StringBuilder();
         for (int level = x.height(v); level >= 1; level--) {
-            for (int k = 0; x.row(v, level, k) != RelaxedRadixVector.NONE; k++) {
-                text.append(x.row(v, level, k));
+            int slots = x.row(v, level, 0);
+            for (int k = 1; slots != RelaxedRadixVector.NONE; k++) {
+                text.append(slots);
+                slots = x.row(v, level, k);
             }
             text.append(level > 1 ? "|" : "");
         }
@@ -91,7 +124,8 @@ final class Vectors {
 
     static String elements(RelaxedRadixVector x, int v) {
         StringBuilder text = new StringBuilder();
-        for (int i = 0; i < x.size(v); i++) {
+        int size = x.size(v);
+        for (int i = 0; i < size; i++) {
             text.append(i > 0 ? " " : "").append(x.get(v, i));
         }
         return text.toString();
